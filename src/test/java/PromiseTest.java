@@ -1,97 +1,5 @@
 /** For each promise of the document: ordinary inputs, the edges that it names, wrong inputs. */
-public final class PromiseTest {
-    private static int wrong = 0;
-
-    private static void due(String what, long got, long want) {
-        if (got != want) {
-            wrong++;
-            System.out.println(what + " answered " + got + ", due is " + want);
-        }
-    }
-
-    private static void write(JobNets x, String text) {
-        for (int i = 0; i < text.length(); i++) {
-            x.sign(text.charAt(i));
-        }
-    }
-
-    private static int read(JobNets x, String text) {
-        write(x, text);
-        return x.read();
-    }
-
-    private static JobNets net(String text) {
-        JobNets x = new JobNets();
-        if (read(x, text) < 0) {
-            wrong++;
-            System.out.println("not read: " + text);
-        }
-        return x;
-    }
-
-    private static void dueFault(String text, int place) {
-        due("read() of " + text, read(new JobNets(), text), -1 - place);
-    }
-
-    /** The answers till the first 0, and so in those below. */
-    private static String ring(JobNets x) {
-        StringBuilder s = new StringBuilder();
-        for (int i = 0; x.ring(i) != 0; i++) {
-            s.append(x.ring(i)).append(' ');
-        }
-        return s.toString().trim();
-    }
-
-    private static String critical(JobNets x) {
-        StringBuilder s = new StringBuilder();
-        for (int i = 0; x.critical(i) != 0; i++) {
-            s.append(x.critical(i)).append(' ');
-        }
-        return s.toString().trim();
-    }
-
-    private static String late(JobNets x, long t) {
-        StringBuilder s = new StringBuilder();
-        for (int i = 0; x.late(t, i) != 0; i++) {
-            s.append(x.late(t, i)).append(' ');
-        }
-        return s.toString().trim();
-    }
-
-    private static String starts(JobNets x) {
-        StringBuilder s = new StringBuilder();
-        for (int i = 0; i < x.count(3); i++) {
-            s.append(x.started(i, 0)).append('@').append(x.started(i, 1)).append(' ');
-        }
-        return s.toString().trim();
-    }
-
-    private static String states(JobNets x) {
-        StringBuilder s = new StringBuilder();
-        for (int job = 1; job <= x.count(0); job++) {
-            s.append(x.state(job));
-        }
-        return s.toString();
-    }
-
-    private static void same(String what, String got, String want) {
-        if (!got.equals(want)) {
-            wrong++;
-            System.out.println(what + " answered [" + got + "], due is [" + want + "]");
-        }
-    }
-
-    private static void dueNoMean(String what, JobNets x, int job, int side) {
-        boolean thrown = false;
-        try {
-            x.mean(job, side);
-        } catch (ArithmeticException e) {
-            // The machine's own words would tell of a division that nobody looked at.
-            thrown = !"/ by zero".equals(e.getMessage());
-        }
-        due(what + " throws", thrown ? 1 : 0, 1);
-    }
-
+public final class PromiseTest extends Checks {
     private static void promise1() {
         JobNets x = new JobNets();
         int[] counts = {0, 1, 0, 0, 0, 0, 0, 0};
@@ -645,9 +553,6 @@ public final class PromiseTest {
         promise15();
         promise16();
         promise17();
-        System.out.println(wrong == 0 ? "all answers are as due" : wrong + " answers are not as due");
-        if (wrong != 0) {
-            System.exit(1);
-        }
+        end();
     }
 }
