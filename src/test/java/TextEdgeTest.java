@@ -350,6 +350,8 @@ public final class TextEdgeTest extends Checks {
         due("holidays stay", x.count(2), 1);
         x.plan(0);
         same("times are kept of new ones", late(x, 6), "1 2");
+        x.event(1, 1, 0, 3);
+        same("times are kept of new ones", means(x), "3+0 none");
     }
 
     private static void readFaulty() {
